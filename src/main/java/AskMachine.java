@@ -505,7 +505,6 @@ public final class AskMachine {
             fuel = fuelAtStart;
             bonus = 0;
             state = GOING;
-            question = NONE;
             gatesPassed = 0;
         }
 
@@ -518,9 +517,9 @@ public final class AskMachine {
             gatesOpen = gates;
             // Each step but the last costs fuel, so it never takes more.
             for (int step = 0; step <= MOST_FUEL && state == GOING; step++) {
-                int paid = payForNext(run.code);
-                if (paid != NONE) {
-                    perform(run, at(run.code.instructions, paid), at(run.code.arguments, paid));
+                int next = payForNext(run.code);
+                if (next != NONE) {
+                    perform(run, at(run.code.instructions, next), at(run.code.arguments, next));
                 }
             }
         }

@@ -10,12 +10,14 @@ final class Checks {
     private Checks() {
     }
 
-    /** What a call answered, or the simple name of what it threw. */
+    /** What a call answered, or the simple name of what it threw; a list's own exception is told apart from a written throw. */
     static String told(Supplier<Object> call) {
         try {
             return String.valueOf(call.get());
         } catch (RuntimeException e) {
-            return e.getClass().getSimpleName();
+            String thrower = e.getStackTrace()[0].getClassName();
+            String name = e.getClass().getSimpleName();
+            return thrower.startsWith("AskMachine") || thrower.startsWith("Model") ? name : name + " of " + thrower;
         }
     }
 
