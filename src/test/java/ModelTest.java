@@ -153,7 +153,7 @@ public final class ModelTest {
     private void saveWakeOrLeave(int kind) {
         int run = someRun();
         if (kind < 86) {
-            same("save", Checks.told(() -> saved(run)), Checks.told(() -> model.save(run)));
+            same("save", Checks.told(() -> Given.saved(x, run)), Checks.told(() -> model.save(run)));
         } else if (kind < 98) {
             String woken = Checks.told(() -> x.wake(run));
             MET.merge("wake " + woken, 1, Integer::sum);
@@ -161,11 +161,6 @@ public final class ModelTest {
         } else {
             same("leave", Checks.told(() -> x.leave(run)), Checks.told(() -> model.leave(run)));
         }
-    }
-
-    private Object saved(int run) {
-        x.save(run);
-        return "saved";
     }
 
     private void same(String call, String got, String want) {

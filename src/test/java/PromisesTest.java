@@ -45,28 +45,6 @@ public final class PromisesTest {
         Checks.due(what, got, want);
     }
 
-    /** Writes the instructions, each with its argument, and publishes them. */
-    private static int publish(AskMachine x, int form, int... code) {
-        for (int i = 0; i < code.length; i += 2) {
-            x.write(form, code[i], code[i + 1]);
-        }
-        return x.publish(form);
-    }
-
-    /** A new object with a version of form 0. */
-    private static AskMachine with(int... code) {
-        AskMachine x = new AskMachine();
-        publish(x, 0, code);
-        return x;
-    }
-
-    /** A new object with a run 0, of respondent 0 and form 0. */
-    private static AskMachine begun(int... code) {
-        AskMachine x = with(code);
-        x.begin(0, 0);
-        return x;
-    }
-
     private static void newObject() {
         AskMachine x = new AskMachine();
         due("runs at first", x.runs(), 0);
@@ -120,17 +98,17 @@ public final class PromisesTest {
         Checks.index("publish form 4", x, () -> x.publish(4));
         Checks.index("publish form -1", x, () -> x.publish(-1));
         for (int version = 0; version < 6; version++) {
-            due("publish", publish(x, 1, FINISH, 0), version);
+            due("publish", Given.publish(x, 1, FINISH, 0), version);
             Checks.state("publish an empty draft", x, () -> x.publish(1));
         }
         due("write behind 6 versions", x.write(1, FINISH, 0), 1);
         Checks.state("publish a 7th", x, () -> x.publish(1));
         due("its draft stays", x.write(1, FINISH, 0), 2);
-        due("another form", publish(x, 2, FINISH, 0), 0);
+        due("another form", Given.publish(x, 2, FINISH, 0), 0);
     }
 
     private static void setFuel() {
-        AskMachine x = with(JUMP, 0);
+        AskMachine x = Given.with(JUMP, 0);
         Checks.index("fuel form 4", x, () -> x.setFuel(4, 0));
         Checks.index("fuel form -1", x, () -> x.setFuel(-1, 5));
         Checks.argument("fuel 0", x, () -> x.setFuel(0, 0));
@@ -159,7 +137,7 @@ public final class PromisesTest {
     }
 
     private static void setQuota() {
-        AskMachine x = with(FINISH, 0);
+        AskMachine x = Given.with(FINISH, 0);
         Checks.index("quota form 4", x, () -> x.setQuota(4, 0, 21));
         Checks.index("quota form -1", x, () -> x.setQuota(-1, 0, 1));
         Checks.index("quota panel 4", x, () -> x.setQuota(0, 4, 21));
@@ -182,7 +160,7 @@ public final class PromisesTest {
     }
 
     private static void setPrice() {
-        AskMachine x = begun(ASK, 15, ASK, 15, FINISH, 0);
+        AskMachine x = Given.begun(ASK, 15, ASK, 15, FINISH, 0);
         x.fund(0, 3000);
         Checks.index("price question 16", x, () -> x.setPrice(16, 1001));
         Checks.index("price question -1", x, () -> x.setPrice(-1, 0));
@@ -208,7 +186,7 @@ public final class PromisesTest {
     }
 
     private static void begin() {
-        AskMachine x = with(ASK, 0);
+        AskMachine x = Given.with(ASK, 0);
         Checks.index("begin respondent 16", x, () -> x.begin(16, 1));
         Checks.index("begin respondent -1", x, () -> x.begin(-1, 0));
         Checks.index("begin form 4", x, () -> x.begin(0, 4));
@@ -220,7 +198,7 @@ public final class PromisesTest {
         Checks.state("begin while it is saved", x, () -> x.begin(0, 0));
         x.leave(0);
         Checks.state("begin when it was left", x, () -> x.begin(0, 0));
-        publish(x, 1, ADD, 0);
+        Given.publish(x, 1, ADD, 0);
         due("the respondent's run of another form", x.begin(0, 1), 1);
         due("it goes on at once", x.state(1), WRONG);
         Checks.state("begin when it has ended", x, () -> x.begin(0, 1));
@@ -236,7 +214,7 @@ public final class PromisesTest {
     }
 
     private static void answer() {
-        AskMachine x = begun(ASK, 3, STORE, 1, ASK, 4, FINISH, 0);
+        AskMachine x = Given.begun(ASK, 3, STORE, 1, ASK, 4, FINISH, 0);
         x.setPrice(3, 10);
         x.setPrice(4, 10);
         Checks.index("answer run 1", x, () -> x.answer(1, 10));
@@ -265,7 +243,7 @@ public final class PromisesTest {
     }
 
     private static void bonus() {
-        AskMachine x = with(PAY, 500, ASK, 0, PAY, 7, FINISH, 0);
+        AskMachine x = Given.with(PAY, 500, ASK, 0, PAY, 7, FINISH, 0);
         x.fund(0, 600);
         x.setPrice(0, 10);
         x.begin(4, 0);
@@ -291,7 +269,7 @@ public final class PromisesTest {
     }
 
     private static void repaying() {
-        AskMachine x = with(ASK, 0, ASK, 1, ZERO, 0, ADD, 0);
+        AskMachine x = Given.with(ASK, 0, ASK, 1, ZERO, 0, ADD, 0);
         x.fund(0, 1000);
         x.setPrice(0, 50);
         x.setPrice(1, 30);
@@ -311,14 +289,14 @@ public final class PromisesTest {
         due("exhausted at its second round", x.state(1), EXHAUSTED);
         due("repaid at the prices that were paid", x.repaid(), 161);
         due("budget", x.budget(0), 1000);
-        AskMachine y = with(PAY, 9, ASK, 0, ASK, 1, FINISH, 0);
+        AskMachine y = Given.with(PAY, 9, ASK, 0, ASK, 1, FINISH, 0);
         y.fund(0, 100);
         y.setPrice(0, 20);
         y.begin(0, 0);
         y.answer(0, 1);
         y.save(0);
         y.reword(0);
-        publish(y, 0, ASK, 0, JUMP, 24);
+        Given.publish(y, 0, ASK, 0, JUMP, 24);
         due("done again", y.wake(0), true);
         due("answer anew", y.answer(0, 1), WRONG);
         due("answers with older wordings are repaid as well", y.repaid(), 40);
@@ -330,28 +308,23 @@ public final class PromisesTest {
     }
 
     private static void save() {
-        AskMachine x = begun(ASK, 2, FINISH, 0);
-        Checks.index("save run 1", x, () -> saved(x, 1));
-        Checks.index("save run -1", x, () -> saved(x, -1));
+        AskMachine x = Given.begun(ASK, 2, FINISH, 0);
+        Checks.index("save run 1", x, () -> Given.saved(x, 1));
+        Checks.index("save run -1", x, () -> Given.saved(x, -1));
         x.save(0);
         due("saved", x.state(0), SAVED);
         due("its question", x.question(0), 2);
-        Checks.state("save a saved one", x, () -> saved(x, 0));
+        Checks.state("save a saved one", x, () -> Given.saved(x, 0));
         x.wake(0);
         x.answer(0, 1);
-        Checks.state("save an ended one", x, () -> saved(x, 0));
+        Checks.state("save an ended one", x, () -> Given.saved(x, 0));
         x.begin(1, 0);
         x.leave(1);
-        Checks.state("save a left one", x, () -> saved(x, 1));
-    }
-
-    private static Object saved(AskMachine x, int run) {
-        x.save(run);
-        return "saved";
+        Checks.state("save a left one", x, () -> Given.saved(x, 1));
     }
 
     private static void wake() {
-        AskMachine x = begun(PAY, 5, ASK, 0, STORE, 0, ASK, 1, STORE, 1, FINISH, 0);
+        AskMachine x = Given.begun(PAY, 5, ASK, 0, STORE, 0, ASK, 1, STORE, 1, FINISH, 0);
         Checks.index("wake run 1", x, () -> x.wake(1));
         Checks.index("wake run -1", x, () -> x.wake(-1));
         Checks.state("wake one that asks", x, () -> x.wake(0));
@@ -385,12 +358,12 @@ public final class PromisesTest {
     }
 
     private static void wakeAgain() {
-        AskMachine x = begun(PAY, 50, ASK, 0, STORE, 0, PUSH, 4, ASK, 1, FINISH, 0);
+        AskMachine x = Given.begun(PAY, 50, ASK, 0, STORE, 0, PUSH, 4, ASK, 1, FINISH, 0);
         x.fund(0, 1000);
         x.setPrice(0, 10);
         x.answer(0, 6);
         x.save(0);
-        publish(x, 0, PAY, 1, LOAD, 0, STORE, 3, ASK, 0, STORE, 1, PUSH, 1, PUSH, 2, ASK, 1, FINISH, 0);
+        Given.publish(x, 0, PAY, 1, LOAD, 0, STORE, 3, ASK, 0, STORE, 1, PUSH, 1, PUSH, 2, ASK, 1, FINISH, 0);
         due("a draft alone is no version", x.write(0, FINISH, 0), 1);
         x.setFuel(0, 40);
         due("done again", x.wake(0), true);
@@ -405,11 +378,11 @@ public final class PromisesTest {
         due("answers", x.answers(0), 1);
         due("answer", x.answer(0, 1), DONE);
         due("no bonus of before", x.reward(0), 11);
-        AskMachine y = begun(ASK, 0, ASK, 0, ASK, 1, FINISH, 0);
+        AskMachine y = Given.begun(ASK, 0, ASK, 0, ASK, 1, FINISH, 0);
         y.answer(0, 3);
         y.answer(0, 4);
         y.save(0);
-        publish(y, 0, ASK, 0, STORE, 0, ASK, 0, STORE, 1, FINISH, 0);
+        Given.publish(y, 0, ASK, 0, STORE, 0, ASK, 0, STORE, 1, FINISH, 0);
         due("done again to its end", y.wake(0), true);
         due("done", y.state(0), DONE);
         due("the first answer first", y.slot(0, 0), 3);
@@ -418,20 +391,20 @@ public final class PromisesTest {
         y.begin(4, 0);
         y.save(1);
         y.setQuota(0, 0, 1);
-        publish(y, 0, GATE, 0, ASK, 0, FINISH, 0);
+        Given.publish(y, 0, GATE, 0, ASK, 0, FINISH, 0);
         due("done again to a gate", y.wake(1), true);
         due("screened", y.state(1), SCREENED);
-        AskMachine z = begun(ASK, 0, ASK, 1, FINISH, 0);
+        AskMachine z = Given.begun(ASK, 0, ASK, 1, FINISH, 0);
         z.answer(0, 1);
         z.save(0);
-        publish(z, 0, FINISH, 0);
+        Given.publish(z, 0, FINISH, 0);
         z.wake(0);
         due("an answer that isn't asked for stays", z.answerAt(0, 0), 1);
         due("done", z.state(0), DONE);
     }
 
     private static void leave() {
-        AskMachine x = with(ASK, 0, ASK, 1, FINISH, 0);
+        AskMachine x = Given.with(ASK, 0, ASK, 1, FINISH, 0);
         x.fund(0, 100);
         x.setPrice(0, 30);
         x.setPrice(1, 12);
@@ -463,7 +436,7 @@ public final class PromisesTest {
     }
 
     private static void runsAndStates() {
-        AskMachine x = begun(ASK, 0, ZERO, 4, FINISH, 0, FINISH, 0, JUMP, 24);
+        AskMachine x = Given.begun(ASK, 0, ZERO, 4, FINISH, 0, FINISH, 0, JUMP, 24);
         due("runs", x.runs(), 1);
         Checks.index("state run 1", x, () -> x.state(1));
         Checks.index("state run -1", x, () -> x.state(-1));
@@ -483,7 +456,7 @@ public final class PromisesTest {
     }
 
     private static void question() {
-        AskMachine x = begun(ASK, 7, ASK, 5, FINISH, 0);
+        AskMachine x = Given.begun(ASK, 7, ASK, 5, FINISH, 0);
         Checks.index("question run 1", x, () -> x.question(1));
         Checks.index("question run -1", x, () -> x.question(-1));
         due("question", x.question(0), 7);
@@ -497,15 +470,15 @@ public final class PromisesTest {
         x.begin(1, 0);
         x.leave(1);
         due("left", x.question(1), 7);
-        publish(x, 1, ASK, 7, ADD, 0);
+        Given.publish(x, 1, ASK, 7, ADD, 0);
         x.begin(0, 1);
         x.answer(2, 1);
         due("wrong", x.question(2), NONE);
-        publish(x, 2, ASK, 7, JUMP, 1);
+        Given.publish(x, 2, ASK, 7, JUMP, 1);
         x.begin(0, 2);
         x.answer(3, 1);
         due("exhausted", x.question(3), NONE);
-        publish(x, 3, ASK, 7, GATE, 0);
+        Given.publish(x, 3, ASK, 7, GATE, 0);
         x.setQuota(3, 0, 0);
         x.begin(0, 3);
         x.answer(4, 1);
@@ -513,12 +486,12 @@ public final class PromisesTest {
     }
 
     private static void version() {
-        AskMachine x = begun(ASK, 0, FINISH, 0);
+        AskMachine x = Given.begun(ASK, 0, FINISH, 0);
         Checks.index("version run 1", x, () -> x.version(1));
         Checks.index("version run -1", x, () -> x.version(-1));
         due("version", x.version(0), 0);
-        publish(x, 0, ASK, 1, FINISH, 0);
-        publish(x, 0, ASK, 2, FINISH, 0);
+        Given.publish(x, 0, ASK, 1, FINISH, 0);
+        Given.publish(x, 0, ASK, 2, FINISH, 0);
         due("it keeps its own", x.version(0), 0);
         x.begin(1, 0);
         due("the latest", x.version(1), 2);
@@ -529,7 +502,7 @@ public final class PromisesTest {
     }
 
     private static void fuelAndAgain() {
-        AskMachine x = begun(PUSH, 1, ASK, 0, ADD, 0, STORE, 0, JUMP, 24);
+        AskMachine x = Given.begun(PUSH, 1, ASK, 0, ADD, 0, STORE, 0, JUMP, 24);
         Checks.index("fuel run 1", x, () -> x.fuel(1));
         Checks.index("fuel run -1", x, () -> x.fuel(-1));
         Checks.index("fuel again run 1", x, () -> x.fuelAgain(1));
@@ -556,14 +529,14 @@ public final class PromisesTest {
         due("none is left", x.fuel(3), 0);
         due("then the next", x.answer(3, 1), EXHAUSTED);
         due("none is left again", x.fuelAgain(3), 0);
-        AskMachine y = with(JUMP, 2, FINISH, 0);
+        AskMachine y = Given.with(JUMP, 2, FINISH, 0);
         y.setFuel(0, 1);
         y.begin(0, 0);
         due("no instruction and no fuel is wrong", y.state(0), WRONG);
     }
 
     private static void slots() {
-        AskMachine x = begun(PUSH, -99, STORE, 7, ASK, 0, STORE, 0, LOAD, 7, STORE, 6, ASK, 1, FINISH, 0);
+        AskMachine x = Given.begun(PUSH, -99, STORE, 7, ASK, 0, STORE, 0, LOAD, 7, STORE, 6, ASK, 1, FINISH, 0);
         Checks.index("slot run 1", x, () -> x.slot(1, 0));
         Checks.index("slot run -1", x, () -> x.slot(-1, 0));
         Checks.index("slot 8", x, () -> x.slot(0, 8));
@@ -581,28 +554,28 @@ public final class PromisesTest {
         due("slot 6 from 7", x.slot(0, 6), -99);
         x.reword(0);
         due("the wording of then again", x.slotAgain(0, 0), 8);
-        publish(x, 0, FINISH, 0);
+        Given.publish(x, 0, FINISH, 0);
         due("the version of then again", x.slotAgain(0, 0), 8);
         x.begin(1, 0);
         due("slots of another run", x.slotAgain(1, 0), 0);
     }
 
     private static void stack() {
-        AskMachine x = begun(ADD, 0);
+        AskMachine x = Given.begun(ADD, 0);
         Checks.index("depth run 1", x, () -> x.depth(1));
         Checks.index("depth run -1", x, () -> x.depth(-1));
         due("nothing to take", x.state(0), WRONG);
         due("depth", x.depth(0), 0);
         for (int instruction = ADD; instruction <= EQUAL; instruction++) {
-            AskMachine y = begun(PUSH, 1, instruction, 0);
+            AskMachine y = Given.begun(PUSH, 1, instruction, 0);
             due("one to take", y.state(0), WRONG);
             due("it is gone", y.depth(0), 0);
-            AskMachine z = begun(PUSH, 1, PUSH, 1, PUSH, 1, instruction, 0, ASK, 0);
+            AskMachine z = Given.begun(PUSH, 1, PUSH, 1, PUSH, 1, instruction, 0, ASK, 0);
             due("two of three", z.depth(0), 2);
         }
-        due("STORE takes", begun(STORE, 0).state(0), WRONG);
-        due("ZERO takes", begun(ZERO, 0).state(0), WRONG);
-        AskMachine eight = begun(PUSH, 0, PUSH, 0, PUSH, 0, PUSH, 0, PUSH, 0, PUSH, 0, PUSH, 0, PUSH, 0, ASK, 0, FINISH, 0);
+        due("STORE takes", Given.begun(STORE, 0).state(0), WRONG);
+        due("ZERO takes", Given.begun(ZERO, 0).state(0), WRONG);
+        AskMachine eight = Given.begun(PUSH, 0, PUSH, 0, PUSH, 0, PUSH, 0, PUSH, 0, PUSH, 0, PUSH, 0, PUSH, 0, ASK, 0, FINISH, 0);
         due("it asks with a full stack", eight.state(0), ASKS);
         due("depth 8", eight.depth(0), 8);
         eight.fund(0, 10);
@@ -614,18 +587,18 @@ public final class PromisesTest {
         due("depth 8 still", eight.depth(0), 8);
         due("fuel", eight.fuel(0), 49);
         due("fuel again", eight.fuelAgain(0), 49);
-        AskMachine push = begun(PUSH, 0, JUMP, 0);
+        AskMachine push = Given.begun(PUSH, 0, JUMP, 0);
         due("a ninth does wrong", push.state(0), WRONG);
         due("its fuel is gone", push.fuel(0), 60 - 17);
         due("depth of 8", push.depth(0), 8);
-        AskMachine load = begun(LOAD, 0, JUMP, 0);
+        AskMachine load = Given.begun(LOAD, 0, JUMP, 0);
         due("a ninth from a slot does wrong", load.state(0), WRONG);
         due("depth of 8 then", load.depth(0), 8);
-        due("a full stack gives", begun(PUSH, 0, PUSH, 0, PUSH, 0, PUSH, 0, PUSH, 0, PUSH, 0, PUSH, 0, PUSH, 0, ADD, 0, PUSH, 0, FINISH, 0).state(0), DONE);
+        due("a full stack gives", Given.begun(PUSH, 0, PUSH, 0, PUSH, 0, PUSH, 0, PUSH, 0, PUSH, 0, PUSH, 0, PUSH, 0, ADD, 0, PUSH, 0, FINISH, 0).state(0), DONE);
     }
 
     private static int result(int instruction, int a, int b) {
-        return begun(PUSH, a, PUSH, b, instruction, 0, STORE, 0, FINISH, 0).slot(0, 0);
+        return Given.begun(PUSH, a, PUSH, b, instruction, 0, STORE, 0, FINISH, 0).slot(0, 0);
     }
 
     private static void arithmetic() {
@@ -639,47 +612,47 @@ public final class PromisesTest {
         due("3 == 4", result(EQUAL, 3, 4), 0);
         due("-4 == -4", result(EQUAL, -4, -4), 1);
         int[] doubling = {PUSH, 99, STORE, 0, LOAD, 0, LOAD, 0, ADD, 0, STORE, 0, JUMP, 2};
-        AskMachine high = begun(doubling);
+        AskMachine high = Given.begun(doubling);
         due("held at the top", high.slot(0, 0), 9999);
         doubling[1] = -99;
-        due("held at the bottom", begun(doubling).slot(0, 0), -9999);
+        due("held at the bottom", Given.begun(doubling).slot(0, 0), -9999);
         int[] lessening = {PUSH, 99, STORE, 0, PUSH, 0, LOAD, 0, LOAD, 0, ADD, 0, MINUS, 0, STORE, 0, JUMP, 2};
-        AskMachine less = with(lessening);
+        AskMachine less = Given.with(lessening);
         less.setFuel(0, 2 + 7 * 6 + 5);
         less.begin(0, 0);
         due("minus", less.slot(0, 0), 99 * 64);
         less.setFuel(0, 2 + 7 * 7);
         less.begin(1, 0);
         due("minus is held at the bottom", less.slot(1, 0), -9999);
-        due("bottom less bottom", begun(PUSH, -99, STORE, 0, LOAD, 0, LOAD, 0, MINUS, 0, STORE, 1, FINISH, 0).slot(0, 1), 0);
+        due("bottom less bottom", Given.begun(PUSH, -99, STORE, 0, LOAD, 0, LOAD, 0, MINUS, 0, STORE, 1, FINISH, 0).slot(0, 1), 0);
     }
 
     private static void jumps() {
-        AskMachine x = begun(JUMP, 2, FINISH, 0, ASK, 1, ZERO, 6, PUSH, 1, FINISH, 0, PUSH, 2, PUSH, 2, FINISH, 0);
+        AskMachine x = Given.begun(JUMP, 2, FINISH, 0, ASK, 1, ZERO, 6, PUSH, 1, FINISH, 0, PUSH, 2, PUSH, 2, FINISH, 0);
         due("jumped over", x.state(0), ASKS);
         x.answer(0, 0);
         due("zero jumps", x.depth(0), 2);
         x.begin(1, 0);
         x.answer(1, 1);
         due("another does not", x.depth(1), 1);
-        due("jump behind the end", begun(JUMP, 1).state(0), WRONG);
-        due("jump to 24", begun(JUMP, 24).state(0), WRONG);
-        due("zero behind the end", begun(PUSH, 0, ZERO, 24, FINISH, 0).state(0), WRONG);
-        due("not zero, not behind the end", begun(PUSH, -1, ZERO, 24, FINISH, 0).state(0), DONE);
-        due("over the end", begun(PUSH, 0).state(0), WRONG);
+        due("jump behind the end", Given.begun(JUMP, 1).state(0), WRONG);
+        due("jump to 24", Given.begun(JUMP, 24).state(0), WRONG);
+        due("zero behind the end", Given.begun(PUSH, 0, ZERO, 24, FINISH, 0).state(0), WRONG);
+        due("not zero, not behind the end", Given.begun(PUSH, -1, ZERO, 24, FINISH, 0).state(0), DONE);
+        due("over the end", Given.begun(PUSH, 0).state(0), WRONG);
         int[] full = new int[48];
         for (int i = 0; i < 48; i += 2) {
             full[i] = PAY;
         }
-        AskMachine y = begun(full);
+        AskMachine y = Given.begun(full);
         due("over the end of 24", y.state(0), WRONG);
         due("24 fuel", y.fuel(0), 36);
         full[46] = FINISH;
-        due("an instruction at 23", begun(full).state(0), DONE);
+        due("an instruction at 23", Given.begun(full).state(0), DONE);
     }
 
     private static void asking() {
-        AskMachine x = begun(ASK, 0, STORE, 0, ASK, 1, STORE, 1, ASK, 0, STORE, 2, ASK, 2, FINISH, 0);
+        AskMachine x = Given.begun(ASK, 0, STORE, 0, ASK, 1, STORE, 1, ASK, 0, STORE, 2, ASK, 2, FINISH, 0);
         x.answer(0, 1);
         x.answer(0, 2);
         due("asked a second time", x.question(0), 0);
@@ -707,16 +680,16 @@ public final class PromisesTest {
         due("answers", x.answers(0), 5);
         due("an answer in between", x.answerAt(0, 3), 1019);
         due("the last", x.answerAt(0, 4), 1005);
-        AskMachine full = begun(ASK, 0, STORE, 0, ASK, 1, FINISH, 0);
+        AskMachine full = Given.begun(ASK, 0, STORE, 0, ASK, 1, FINISH, 0);
         full.answer(0, 1);
         full.save(0);
-        publish(full, 0, PUSH, 1, PUSH, 1, PUSH, 1, PUSH, 1, PUSH, 1, PUSH, 1, PUSH, 1, PUSH, 1, ASK, 0, FINISH, 0);
+        Given.publish(full, 0, PUSH, 1, PUSH, 1, PUSH, 1, PUSH, 1, PUSH, 1, PUSH, 1, PUSH, 1, PUSH, 1, ASK, 0, FINISH, 0);
         due("done again onto a full stack", full.wake(0), true);
         due("does wrong", full.state(0), WRONG);
     }
 
     private static void answersOfARun() {
-        AskMachine x = begun(ASK, 15, ASK, 3, FINISH, 0);
+        AskMachine x = Given.begun(ASK, 15, ASK, 3, FINISH, 0);
         Checks.index("answers run 1", x, () -> x.answers(1));
         Checks.index("answers run -1", x, () -> x.answers(-1));
         Checks.index("no answer 0", x, () -> x.answerAt(0, 0));
@@ -741,7 +714,7 @@ public final class PromisesTest {
     }
 
     private static void gates() {
-        AskMachine x = with(GATE, 0, ASK, 0, GATE, 0, PUSH, 1, FINISH, 0);
+        AskMachine x = Given.with(GATE, 0, ASK, 0, GATE, 0, PUSH, 1, FINISH, 0);
         x.setQuota(0, 3, 1);
         x.begin(3, 0);
         x.begin(7, 0);
@@ -759,15 +732,15 @@ public final class PromisesTest {
         Checks.index("done form -1", x, () -> x.done(-1, 0));
         Checks.index("done panel 4", x, () -> x.done(0, 4));
         Checks.index("done panel -1", x, () -> x.done(0, -1));
-        publish(x, 1, GATE, 0, FINISH, 0);
+        Given.publish(x, 1, GATE, 0, FINISH, 0);
         x.setQuota(1, 3, 1);
         x.begin(3, 1);
         due("another form counts its own", x.state(4), DONE);
         due("done of that", x.done(1, 3), 1);
-        due("a wrong one", publish(x, 1, ADD, 0), 1);
+        due("a wrong one", Given.publish(x, 1, ADD, 0), 1);
         x.begin(1, 1);
         due("is not done", x.done(1, 1), 0);
-        publish(x, 2, PAY, 30, GATE, 0, FINISH, 0);
+        Given.publish(x, 2, PAY, 30, GATE, 0, FINISH, 0);
         x.fund(2, 100);
         x.setQuota(2, 0, 0);
         x.begin(0, 2);
@@ -776,7 +749,7 @@ public final class PromisesTest {
     }
 
     private static void gatesAgain() {
-        AskMachine x = with(GATE, 0, ASK, 0, GATE, 0, PUSH, 5, STORE, 4, ASK, 1, FINISH, 0);
+        AskMachine x = Given.with(GATE, 0, ASK, 0, GATE, 0, PUSH, 5, STORE, 4, ASK, 1, FINISH, 0);
         for (int respondent = 0; respondent < 16; respondent += 4) {
             x.begin(respondent, 0);
             x.answer(respondent / 4, 1);
@@ -809,7 +782,7 @@ public final class PromisesTest {
     }
 
     private static void money() {
-        AskMachine x = with(ASK, 0, PAY, 20, ASK, 1, FINISH, 0);
+        AskMachine x = Given.with(ASK, 0, PAY, 20, ASK, 1, FINISH, 0);
         x.fund(0, 500);
         x.setPrice(0, 11);
         x.begin(15, 0);
@@ -826,7 +799,7 @@ public final class PromisesTest {
         Checks.index("budget 4", x, () -> x.budget(4));
         Checks.index("budget -1", x, () -> x.budget(-1));
         due("repaid", x.repaid(), 0);
-        publish(x, 3, ASK, 0, ADD, 0);
+        Given.publish(x, 3, ASK, 0, ADD, 0);
         x.fund(3, 11);
         x.begin(15, 3);
         x.answer(2, 1);
